@@ -183,8 +183,8 @@ public final class BundleFence {
         }
         machine.wake();
         int done = 0;
-        while (done < n && machine.state == GOES_ON) {
-            if (done > 0 && hasBreakpoint(machine.eip)) {
+        for (int i = 0; i < n && machine.state == GOES_ON; i++) {
+            if (i > 0 && hasBreakpoint(machine.eip)) {
                 machine.state = AT_BREAKPOINT;
             } else if (machine.step()) {
                 done++;
@@ -1008,7 +1008,7 @@ public final class BundleFence {
         int inspect() {
             forget();
             instructions = 0;
-            for (int p = 0; p < image.count && p < Image.ROOM; p++) {
+            for (int p = 0; p < Image.ROOM; p++) {
                 marks[p] = 0;
                 lengths[p] = decoder.decode(p);
                 traits[p] = lengths[p] == 0 ? 0 : traitsOfIt();
@@ -1037,19 +1037,20 @@ public final class BundleFence {
         }
 
         private boolean is(int place, int trait) {
-            return image.has(place) && (traits[place] & trait) != 0;
+            return place >= 0 && place < Image.ROOM && (traits[place] & trait) != 0;
         }
 
         private boolean isOf(int place, int trait, int register) {
-            return is(place, trait) && registers[place] == register;
+            return place >= 0 && place < Image.ROOM
+                    && (traits[place] & trait) != 0 && registers[place] == register;
         }
 
         private int lengthAt(int place) {
-            return image.has(place) ? lengths[place] : 0;
+            return place >= 0 && place < Image.ROOM ? lengths[place] : 0;
         }
 
         private void mark(int place, int as) {
-            if (image.has(place)) {
+            if (place >= 0 && place < Image.ROOM) {
                 marks[place] = as;
                 instructions++;
             }
@@ -1072,10 +1073,10 @@ public final class BundleFence {
                 return refuse(1, 0);
             }
             int last = 0;
-            int p = 0;
-            while (p < image.count && met == 0) {
+            int length = 0;
+            for (int p = 0; p < image.count && met == 0; p += Math.max(1, length)) {
                 last = p;
-                p += markUnit(p);
+                length = markUnit(p);
             }
             return last;
         }
@@ -1161,18 +1162,17 @@ public final class BundleFence {
         }
 
         private boolean isEntry(int address) {
-            int place = address - Image.START;
-            return gateAt(address) != NONE || image.has(place) && marks[place] == 1;
+            return gateAt(address) != NONE || markAt(address - Image.START) == 1;
         }
 
         private void checkEnd(int last) {
-            int lastPlace = last;
+            int end = last;
             for (int p = last; p < image.count; p++) {
                 if (markAt(p) != 0) {
-                    lastPlace = p;
+                    end = p;
                 }
             }
-            if (met == 0 && !is(lastPlace, ENDS)) {
+            if (met == 0 && !is(end, ENDS)) {
                 refuse(8, last);
             }
         }
@@ -1373,8 +1373,8 @@ public final class BundleFence {
         }
 
         int load(int address, int width) {
-            boolean ofData = inData(address, width);
-            if (!ofData && !inImage(address, width)) {
+            boolean ofData = isWithin(address, width, DATA_START, DATA_END);
+            if (!ofData && !isWithin(address, width, Image.START, Image.START + image.count)) {
                 fail(FENCED);
                 return 0;
             }
@@ -1388,7 +1388,7 @@ public final class BundleFence {
         }
 
         void store(int address, int width, int v) {
-            if (!inData(address, width)) {
+            if (!isWithin(address, width, DATA_START, DATA_END)) {
                 boolean near = isWithin(address, width, MARGINS_START, MARGINS_END);
                 fail(near ? FENCED : ESCAPED);
             }
@@ -1695,6 +1695,7 @@ public final class BundleFence {
         final int[] registers = new int[8];
         final int[] passes = new int[Image.ROOM];
         private final int[] kept = new int[8];
+        private int keptFlags;
         int state;
         int eip;
         int leftWith;
@@ -1739,10 +1740,9 @@ public final class BundleFence {
             int gate = gateAt(eip);
             if (gate != NONE) {
                 doService(gate);
-            } else if (memory.inImage(eip, 1)) {
-                doInstruction(eip - Image.START);
-            } else {
-                memory.fail(FENCED);
+            } else if (isReady()) {
+                execute();
+                settle();
             }
             if (memory.trouble != 0) {
                 state = memory.trouble;
@@ -1770,26 +1770,36 @@ public final class BundleFence {
             }
         }
 
-        /** What can't be done to its end is taken back as a whole. */
-        private void doInstruction(int place) {
+        /** Takes the instruction at EIP apart, if one may be done there, and keeps what it may change. */
+        private boolean isReady() {
+            int place = eip - Image.START;
+            if (!memory.inImage(eip, 1)) {
+                memory.fail(FENCED);
+                return false;
+            }
             if (decoder.decode(place) == 0 || !inspector.permits(place)) {
                 memory.fail(ESCAPED);
-                return;
+                return false;
             }
             System.arraycopy(registers, 0, kept, 0, 8);
-            int keptFlags = flags.bits;
+            keptFlags = flags.bits;
             follower = eip + it.length;
             where = addressOfE();
-            execute();
+            return true;
+        }
+
+        /** What could not be done to its end is taken back as a whole. */
+        private void settle() {
             if (memory.trouble != 0) {
                 System.arraycopy(kept, 0, registers, 0, 8);
                 flags.bits = keptFlags;
                 return;
             }
-            eip = follower;
+            int place = eip - Image.START;
             if (place >= 0 && place < Image.ROOM) {
                 passes[place]++;
             }
+            eip = follower;
         }
 
         private int addressOfE() {
