@@ -470,7 +470,17 @@ public final class BundleFence {
             hasE = false;
             digits = ANY_DIGIT;
             numberBytes = 0;
-            chooseByOpcode(nextByte());
+            int code = nextByte();
+            it.opcode = code;
+            if (code == 0x0F) {
+                chooseLong(nextByte());
+            } else if (code == 0x66) {
+                chooseWord(nextByte());
+            } else if (code < 0x80) {
+                chooseLow(code);
+            } else {
+                chooseHigh(code, (code & 1) == 0 ? 1 : 4);
+            }
             if (hasE) {
                 readE();
                 chooseByDigit();
@@ -533,19 +543,6 @@ public final class BundleFence {
             }
         }
 
-        private void chooseByOpcode(int code) {
-            it.opcode = code;
-            if (code == 0x0F) {
-                chooseLong(nextByte());
-            } else if (code == 0x66) {
-                chooseWord(nextByte());
-            } else if (code < 0x80) {
-                chooseLow(code);
-            } else {
-                chooseHigh(code, (code & 1) == 0 ? 1 : 4);
-            }
-        }
-
         private void chooseByDigit() {
             int digit = it.reg & 7;
             switch (digits) {
@@ -583,12 +580,18 @@ public final class BundleFence {
         }
 
         private void withE(Op op, int form, int width) {
-            plain(op, form, width, 0);
+            it.op = op;
+            it.form = form;
+            it.width = width;
+            it.widthOfE = width;
             hasE = true;
         }
 
-        private void withDigit(int which, int form, int width, int bytes) {
-            plain(Op.NOP, form, width, bytes);
+        /** An operation that E's digit tells. */
+        private void withDigit(int which, int form, int width) {
+            it.form = form;
+            it.width = width;
+            it.widthOfE = width;
             hasE = true;
             digits = which;
         }
@@ -683,7 +686,7 @@ public final class BundleFence {
                     chooseShiftOrMove(code, width);
                     break;
                 case 26:
-                    withDigit(OF_SHIFTS, code < 0xD2 ? E_I : E_CL, width, 0);
+                    withDigit(OF_SHIFTS, code < 0xD2 ? E_I : E_CL, width);
                     it.number = 1;
                     found = code < 0xD4;
                     hasE = found;
@@ -716,7 +719,8 @@ public final class BundleFence {
                     withE(Op.XCHG, E_G, width);
                     break;
                 default:
-                    withDigit(OF_EIGHT, E_I, width, code == 0x81 ? 4 : 1);
+                    withDigit(OF_EIGHT, E_I, width);
+                    numberBytes = code == 0x81 ? 4 : 1;
                     break;
             }
         }
@@ -752,7 +756,8 @@ public final class BundleFence {
 
         private void chooseShiftOrMove(int code, int width) {
             if (code < 0xC2) {
-                withDigit(OF_SHIFTS, E_I, width, 1);
+                withDigit(OF_SHIFTS, E_I, width);
+                numberBytes = 1;
             } else if (code == 0xC6 || code == 0xC7) {
                 withE(Op.MOV, E_I, width);
                 digits = ZERO_ALONE;
@@ -795,7 +800,7 @@ public final class BundleFence {
                     break;
                 case 0xF6:
                 case 0xF7:
-                    withDigit(OF_SINGLES, E_ALONE, width, 0);
+                    withDigit(OF_SINGLES, E_ALONE, width);
                     break;
                 case 0xF8:
                     plain(Op.CLC, NOTHING, 4, 0);
@@ -805,7 +810,7 @@ public final class BundleFence {
                     break;
                 case 0xFE:
                 case 0xFF:
-                    withDigit(OF_COUNTING, E_ALONE, width, 0);
+                    withDigit(OF_COUNTING, E_ALONE, width);
                     break;
                 default:
                     found = false;
