@@ -151,6 +151,9 @@ public final class InstructionTest {
         S.row("F7 E1", "eax=FFFFFFFF ecx=FFFFFFFF", "eax=1 edx=FFFFFFFE f=CO");
         S.row("F7 E1", "eax=FFFF ecx=10001", "eax=FFFFFFFF edx=0 f=PS");
         S.row("F7 E1", "eax=0 ecx=5 f=CSO", "eax=0 edx=0 f=PZ");
+        S.row("F7 E1", "eax=80000000 ecx=2", "eax=0 edx=1 f=CPZO");
+        S.row("F7 E9", "eax=40000000 ecx=2", "eax=80000000 edx=0 f=CPSO");
+        S.row("F6 E1", "eax=80 ecx=2", "eax=100 f=CPZO");
         S.row("F7 E9", "eax=FFFFFFFF ecx=FFFFFFFF f=C", "eax=1 edx=0 f=");
         S.row("F7 E9", "eax=FFFFFFFF ecx=1", "eax=FFFFFFFF edx=FFFFFFFF f=PS");
         S.row("F7 E9", "eax=80000000 ecx=FFFFFFFF", "eax=80000000 edx=0 f=CPSO");

@@ -214,7 +214,10 @@ public final class LookTest {
         }
         String[] others = {"39 C4", "3B E0", "83 FC 04", "85 C4", "F7 C4 01 00 00 00", "54", "FF F4", "58", "8F C0",
             "E8 FB F3 FF FF", "00 C4", "B4 01", "0F 94 C4", "C0 E4 01", "F7 E4", "F7 EC", "F7 F4", "F7 FC",
-            "0F 1F C4", "8A 23", "86 C4", "FE C4", "F6 DC", "89 E0", "8B C4", "0F B1 E0"};
+            "0F 1F C4", "8A 23", "86 C4", "FE C4", "F6 DC", "89 E0", "8B C4", "0F B1 E0",
+            "01 E0", "09 E0", "11 E0", "19 E0", "21 E0", "29 E0", "31 E0", "39 E0", "85 E0", "03 C4", "0F A4 E0 01",
+            "0F AC E0 01", "66 89 E0", "66 8B C4", "C1 E0 01", "F7 E0", "0F 44 C4", "0F AF C4", "69 C4 01 00 00 00",
+            "0F B7 C4", "0F BF C4", "0F BC C4", "0F BD C4", "8D 04 24", "0F 94 E0", "A9 00 00 00 00", "35 04 00 00 00"};
         for (String w : others) {
             C.due("no write to esp: " + w, Fences.bundle(w).look() > 0, true);
         }

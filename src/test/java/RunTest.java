@@ -63,7 +63,9 @@ public final class RunTest {
         x.begin(true);
         C.due("run(5)", x.run(5), 5);
         C.due("run(1) at the gate", x.run(1), 1);
-        x.put(7, 99);
+        for (int k = 0; k < 8; k++) {
+            x.put(k, 90 + k);
+        }
         C.due("seed", x.told(6), 12345);
         C.due("flags", x.told(7), 1);
         x.poke(0x10000, 5);

@@ -78,6 +78,10 @@ public final class ServiceTest {
         x.wipe();
         C.due("left with, when it is over", x.told(2), -7);
         C.due("state", x.told(0), 0);
+        x.feed(1, 0xF4);
+        C.due("left with, before the next run", x.told(2), -7);
+        x.begin(true);
+        C.due("left with, in the next run", x.told(2), 0);
     }
 
     private static void returning() {
