@@ -1054,6 +1054,10 @@ public final class BundleFence {
             return place >= 0 && place < Image.ROOM ? lengths[place] : 0;
         }
 
+        private int registerAt(int place) {
+            return place >= 0 && place < Image.ROOM ? registers[place] : NONE;
+        }
+
         private void mark(int place, int as) {
             if (place >= 0 && place < Image.ROOM) {
                 marks[place] = as;
@@ -1127,7 +1131,7 @@ public final class BundleFence {
         private int markJumpUnit(int p, int n) {
             int behind = p + n;
             int more = lengthAt(behind);
-            if (!isOf(behind, REGISTER_JUMP, registers[p]) || leavesBundle(p, n + more)) {
+            if (!isOf(behind, REGISTER_JUMP, registerAt(p)) || leavesBundle(p, n + more)) {
                 return n;
             }
             mark(behind, 2);
@@ -1135,7 +1139,7 @@ public final class BundleFence {
         }
 
         private int markWriteUnit(int p) {
-            int r = registers[p];
+            int r = registerAt(p);
             int behind = p + FENCES;
             int more = lengthAt(behind);
             boolean writes = is(behind, WRITES_MEMORY) && isOf(behind, NEAR, r)
@@ -1159,8 +1163,8 @@ public final class BundleFence {
         }
 
         private void checkTargets() {
-            for (int p = 0; p < image.count && met == 0; p++) {
-                if (markAt(p) != 0 && is(p, GOES) && !isEntry(targets[p])) {
+            for (int p = 0; p < Image.ROOM && met == 0; p++) {
+                if (marks[p] != 0 && is(p, GOES) && !isEntry(targets[p])) {
                     refuse(7, p);
                 }
             }
