@@ -1,26 +1,34 @@
 /** Compares answers with what is due, and counts those that differ. */
 final class Check {
     private final String title;
+    private String sentence = "";
     private int all;
     private int wrong;
+    private int sentences;
 
     Check(String title) {
         this.title = title;
     }
 
+    /** What follows is due by a sentence of the document, which has to stand there. */
+    void says(String heading, String words) {
+        sentences++;
+        sentence = "";
+        due("the document says under " + heading + ": " + words, Doc.says(heading, words), true);
+        sentence = " (" + heading + ": \"" + words + "\")";
+    }
+
     void due(String what, long got, long want) {
         all++;
         if (got != want) {
-            wrong++;
-            System.out.println(title + ": " + what + " answered " + got + ", due is " + want);
+            tell(what, String.valueOf(got), String.valueOf(want));
         }
     }
 
     void due(String what, String got, String want) {
         all++;
         if (!got.equals(want)) {
-            wrong++;
-            System.out.println(title + ": " + what + " answered " + got + ", due is " + want);
+            tell(what, got, want);
         }
     }
 
@@ -28,19 +36,28 @@ final class Check {
         due(what, got ? 1 : 0, want ? 1 : 0);
     }
 
+    private void tell(String what, String got, String want) {
+        wrong++;
+        System.out.println(title + ": " + what + " answered " + got + ", due is " + want + sentence);
+    }
+
     /** The call has to throw just this exception. */
     void refused(String what, Class<?> want, Runnable call) {
-        String got = "nothing";
+        due(what + " throws", thrownBy(call), want.getSimpleName());
+    }
+
+    static String thrownBy(Runnable call) {
         try {
             call.run();
         } catch (RuntimeException e) {
-            got = e.getClass().getSimpleName();
+            return e.getClass().getSimpleName();
         }
-        due(what + " throws", got, want.getSimpleName());
+        return "nothing";
     }
 
     void end() {
-        System.out.println(title + ": " + all + " answers, " + wrong + " wrong");
+        String by = sentences == 0 ? "" : " by " + sentences + " sentences";
+        System.out.println(title + ": " + all + " answers" + by + ", " + wrong + " wrong");
         if (wrong != 0) {
             System.exit(1);
         }

@@ -3,6 +3,7 @@ final class Fences {
     static final int DATA = 0x10000;
     static final String NOP = "90";
     static final String HLT = "F4";
+    static final int ROOM = 2048;
 
     private Fences() {
     }
@@ -19,21 +20,36 @@ final class Fences {
     /** Replaces the image of x. */
     static void load(BundleFence x, String hex) {
         x.wipe();
-        for (int b : bytes(hex)) {
-            x.feed(1, b);
+        feed(x, bytes(hex));
+    }
+
+    /** Eight bytes a call, since an object is used for 512 calls alone. */
+    static void feed(BundleFence x, int[] b) {
+        for (int at = 0; at < b.length; at += 8) {
+            int n = Math.min(8, b.length - at);
+            long v = 0;
+            for (int k = n - 1; k >= 0; k--) {
+                v = v << 8 | b[at + k];
+            }
+            x.feed(n, v);
         }
     }
 
     static BundleFence of(String hex) {
         BundleFence x = new BundleFence();
-        load(x, hex);
+        feed(x, bytes(hex));
         return x;
+    }
+
+    /** So many nops. */
+    static String nops(int n) {
+        return (NOP + " ").repeat(n);
     }
 
     /** The bytes, then nops, then hlt: so many bytes in all. */
     static String filled(String hex, int size) {
         int have = bytes(hex).length;
-        return hex + " " + (NOP + " ").repeat(size - 1 - have) + HLT;
+        return hex + " " + nops(size - 1 - have) + HLT;
     }
 
     /** A bundle (or more) of the bytes, nops and a hlt. */
@@ -42,11 +58,43 @@ final class Fences {
         return of(filled(hex, (have + 32) / 32 * 32));
     }
 
+    /** A VALID image of so many bytes that was looked through. */
+    static BundleFence looked(String hex, int size) {
+        BundleFence x = of(filled(hex, size));
+        x.look();
+        return x;
+    }
+
+    /** A run that stands at gate k, called from place 0; the service leads back to that call. */
+    static BundleFence atGate(int k) {
+        BundleFence x = bundle("E8 " + le(gate(k) - 0x1005));
+        x.begin(true);
+        x.run(1);
+        return x;
+    }
+
+    static int gate(int k) {
+        return 0x400 + 32 * k;
+    }
+
+    /** Does the service that the run stands at, with these in ebx and ecx, and the call once more. */
+    static int serve(BundleFence x, int ebx, int ecx) {
+        x.put(3, ebx);
+        x.put(1, ecx);
+        x.run(1);
+        int answer = x.register(0);
+        x.run(1);
+        return answer;
+    }
+
     static String textOf(BundleFence x, int place) {
         int n = x.tell(place);
         StringBuilder s = new StringBuilder();
-        for (int i = 0; i < n; i++) {
-            s.append((char) (x.text(i) & 0xFF));
+        for (int i = 0; i < n; i += 8) {
+            long eight = x.text(i);
+            for (int k = 0; k < 8 && i + k < n; k++) {
+                s.append((char) (eight >>> (8 * k) & 0xFF));
+            }
         }
         return n < 0 ? "none" : s.toString();
     }

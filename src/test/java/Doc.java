@@ -1,0 +1,46 @@
+import java.io.IOException;
+import java.io.UncheckedIOException;
+import java.nio.file.Files;
+import java.nio.file.Path;
+
+/** The document, so that a test can't name a sentence that does not stand there. */
+final class Doc {
+    private static final Path FILE = Path.of("../shared/DOC.md");
+    private static final String TEXT = read();
+
+    private Doc() {
+    }
+
+    private static String read() {
+        try {
+            return Files.readString(FILE);
+        } catch (IOException e) {
+            throw new UncheckedIOException(e);
+        }
+    }
+
+    private static String flat(String s) {
+        return s.replaceAll("\\s+", " ").trim();
+    }
+
+    /** True if the sentence stands under this heading: "Promise 2", "6 RUNNING" and their like. */
+    static boolean says(String heading, String sentence) {
+        int from = startOf(heading);
+        if (from < 0) {
+            return false;
+        }
+        int nextTitle = TEXT.indexOf("\n## ", from + 1);
+        int nextSection = TEXT.indexOf("\n========", from + 1);
+        int to = nextTitle < 0 ? TEXT.length() : nextTitle;
+        to = nextSection < 0 ? to : Math.min(to, nextSection);
+        return flat(TEXT.substring(from, to)).contains(flat(sentence));
+    }
+
+    private static int startOf(String heading) {
+        if (heading.startsWith("Promise ")) {
+            return TEXT.indexOf("\n## " + heading + ":");
+        }
+        int section = TEXT.indexOf("\n======== " + heading + "\n");
+        return section < 0 ? TEXT.indexOf("\n## " + heading + "\n") : section;
+    }
+}
