@@ -28,6 +28,7 @@ public final class MoveEdgesTest {
         carryAlone();
         eachIsDoneAnew();
         nopReadsNothing();
+        addressOfEachForm();
         leaIsTheAddress();
         C.end();
     }
@@ -312,6 +313,50 @@ public final class MoveEdgesTest {
         S.row("0F 1F 04 24", "esp=FFFFFFFF", "");
         S.row("90", "f=CSO", "");
         S.row("66 90", "f=PZ", "");
+    }
+
+    /** Every form of E, against the words that tell it. */
+    private static void addressOfEachForm() {
+        C.says("2 INSTRUCTIONS", "INDEX (bits 5 to 3; 4: none) times 1, 2, 4, 8 by bits 7 and 6, and BASE (bits 2 to 0); with other RM "
+            + "the BASE is RM alone.");
+        C.says("2 INSTRUCTIONS", "The address is base, index and displacement together.");
+        int[] values = {0x11, 0x20000003, 0x7FFFFFFF, 0x80000000, 0xFFFFFFFF, 0xC0000001, 5, 0x12345678};
+        int[] far = {0, 0x7FFFFFFF, 0x80000000, 0xFFFFFFFF, 0x00010000};
+        for (int mode = 0; mode < 3; mode++) {
+            for (int rm = 0; rm < 8; rm++) {
+                for (int s = 0; s < (rm == 4 ? 256 : 1); s++) {
+                    for (int d : mode == 1 ? new int[] {0, 127, -128} : far) {
+                        address(mode, rm, s, d, values);
+                    }
+                }
+            }
+        }
+    }
+
+    private static void address(int mode, int rm, int s, int d, int[] values) {
+        int base = rm == 4 ? s & 7 : rm;
+        boolean noBase = mode == 0 && base == 5;
+        int want = noBase ? 0 : values[base];
+        if (rm == 4 && (s >> 3 & 7) != 4) {
+            want += values[s >> 3 & 7] * (1 << (s >> 6));
+        }
+        StringBuilder hex = new StringBuilder(String.format("8D %02X ", mode << 6 | rm));
+        if (rm == 4) {
+            hex.append(String.format("%02X ", s));
+        }
+        if (mode == 1) {
+            hex.append(String.format("%02X", d & 255));
+        } else if (mode == 2 || noBase) {
+            hex.append(Fences.le(d));
+        }
+        want += mode != 0 || noBase ? d : 0;
+        BundleFence x = Fences.bundle(hex.toString());
+        x.begin(true);
+        for (int k = 0; k < 8; k++) {
+            x.put(k, values[k]);
+        }
+        C.due("run(1) of " + hex, x.run(1), 1);
+        C.due("the address of " + hex, x.register(0), want);
     }
 
     private static void leaIsTheAddress() {

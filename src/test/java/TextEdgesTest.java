@@ -16,6 +16,7 @@ public final class TextEdgesTest {
         targetsWithoutSign();
         shiftsByClAnd1();
         registersOfEachSize();
+        namesAndOperands();
         conditionsBehindNames();
         theDocumentsOwn();
         promise9TellsEachAnew();
@@ -181,6 +182,42 @@ public final class TextEdgesTest {
                 text("0F BF " + e, "movsx " + LONGS[g] + "," + WORDS[r]);
                 text("0F 9F " + e, "setg " + BYTES[r]);
             }
+        }
+    }
+
+    /** Those that the other tests here do not tell. */
+    private static void namesAndOperands() {
+        C.says("5 TEXTS", "An instruction's TEXT: its name (j, set, cmov with the condition behind: jo, setno, cmovb ..), and, if it has "
+            + "operands, a blank and these, with commas between: registers by their names");
+        String[] hexes = {"0F AF C1", "0F AF 01", "0F BC C1", "0F BC 01", "0F BD C1", "0F BD 01", "0F B1 C1", "0F B1 01", "0F C1 C1",
+            "0F C1 01", "0F A4 C1 02", "0F AC 01 02", "0F B7 C1", "0F BF C1", "84 C1", "85 C1", "85 01", "86 C1", "87 C1", "86 01",
+            "8D 01", "8F C1", "F6 D1", "F7 D9", "F6 21", "F7 E9", "F6 F1", "F7 39", "FE C1", "FF C9", "FF D1", "FF E1", "FF F1",
+            "0F 1F C1", "66 90", "F5", "F8", "F9", "98", "99", "F4", "90", "91", "97", "41", "49", "51", "59", "0F C9"};
+        String[] texts = {"imul eax,ecx", "imul eax,d[ecx]", "bsf eax,ecx", "bsf eax,d[ecx]", "bsr eax,ecx", "bsr eax,d[ecx]",
+            "cmpxchg ecx,eax", "cmpxchg d[ecx],eax", "xadd ecx,eax", "xadd d[ecx],eax", "shld ecx,eax,2", "shrd d[ecx],eax,2",
+            "movzx eax,cx", "movsx eax,cx", "test cl,al", "test ecx,eax", "test d[ecx],eax", "xchg cl,al", "xchg ecx,eax",
+            "xchg b[ecx],al", "lea eax,d[ecx]", "pop ecx", "not cl", "neg ecx", "mul b[ecx]", "imul ecx", "div cl", "idiv d[ecx]",
+            "inc cl", "dec ecx", "call ecx", "jmp ecx", "push ecx", "nop ecx", "nop", "cmc", "clc", "stc", "cwde", "cdq", "hlt", "nop",
+            "xchg eax,ecx", "xchg eax,edi", "inc ecx", "dec ecx", "push ecx", "pop ecx", "bswap ecx"};
+        for (int i = 0; i < hexes.length; i++) {
+            text(hexes[i], texts[i]);
+        }
+        String[] eight = {"add", "or", "adc", "sbb", "and", "sub", "xor", "cmp"};
+        String[] ways = {" cl,al", " ecx,eax", " al,cl", " eax,ecx"};
+        for (int n = 0; n < 8; n++) {
+            for (int way = 0; way < 4; way++) {
+                text(String.format("%02X C1", 8 * n + way), eight[n] + ways[way]);
+            }
+            text(String.format("%02X 02", 8 * n + 4), eight[n] + " al,2");
+            text(String.format("%02X 02 00 00 00", 8 * n + 5), eight[n] + " eax,2");
+            text(String.format("80 %02X 02", 0xC1 + 8 * n), eight[n] + " cl,2");
+            text(String.format("81 %02X 02 00 00 00", 0xC1 + 8 * n), eight[n] + " ecx,2");
+            text(String.format("83 %02X 02", 0x01 + 8 * n), eight[n] + " d[ecx],2");
+        }
+        String[] shifts = {"rol", "ror", "rcl", "rcr", "shl", "shr", "", "sar"};
+        for (int n = 0; n < 8; n++) {
+            text(String.format("C1 %02X 02", 0xC1 + 8 * n), n == 6 ? "none" : shifts[n] + " ecx,2");
+            text(String.format("C0 %02X 02", 0x01 + 8 * n), n == 6 ? "none" : shifts[n] + " b[ecx],2");
         }
     }
 
