@@ -36,6 +36,22 @@ final class Doc {
         return flat(TEXT.substring(from, to)).contains(flat(sentence));
     }
 
+    /** What stands between two lines of the document. */
+    static String between(String first, String last) {
+        int from = TEXT.indexOf(first);
+        int to = from < 0 ? -1 : TEXT.indexOf(last, from);
+        return to < 0 ? "" : TEXT.substring(from + first.length(), to);
+    }
+
+    /** The lines of the block that stands under a title, without its fences. */
+    static String block(String title) {
+        int from = startOf(title);
+        int open = from < 0 ? -1 : TEXT.indexOf("\n```", from);
+        int first = open < 0 ? -1 : TEXT.indexOf('\n', open + 1);
+        int close = first < 0 ? -1 : TEXT.indexOf("\n```", first);
+        return close < 0 ? "" : TEXT.substring(first + 1, close);
+    }
+
     private static int startOf(String heading) {
         if (heading.startsWith("Promise ")) {
             return TEXT.indexOf("\n## " + heading + ":");
